@@ -256,7 +256,7 @@ public final class RoundMill {
     }
 
     public boolean begin(int p) {
-        if (p > MOST_PRIME || !Numbers.isPrime(p)) {
+        if (!Numbers.isTellingPrime(p)) {
             return false;
         }
         told.clear(p);
@@ -344,9 +344,8 @@ public final class RoundMill {
             return x == 1 ? restOf(past, measure) : 0;
         }
 
-        /** For numbers up to 499. */
-        static boolean isPrime(int p) {
-            if (p < 2) {
+        static boolean isTellingPrime(int p) {
+            if (p < 2 || p > MOST_PRIME) {
                 return false;
             }
             for (int d = 2; d * d <= p; d++) {
@@ -383,10 +382,10 @@ public final class RoundMill {
             }
         }
 
-        /** For numbers whose root is below 2^15. */
+        /** For numbers whose root is at most 500, as those of a part are. */
         void addThoseOf(int number) {
             int left = number;
-            for (int d = 2; d * d <= left; d++) {
+            for (int d = 2; d <= MOST_MEASURE && d * d <= left; d++) {
                 if (left % d == 0) {
                     add(d);
                 }
@@ -440,10 +439,10 @@ public final class RoundMill {
         }
 
         /**
-         * Turns that bring back every plate that is in a round modulo this part, whatever the mill's table: modulo
-         * the prime a table's roots lie in fields of at most size rounds, the repeated ones (the 1 of MORE among
-         * them) ask for a power of the prime that is above the size, and each power of the prime more asks for
-         * the prime once more. At most 7.8 * 10^18 (for 499), and so never too great for a long.
+         * Turns that bring back every plate that is in a round modulo this part, whatever the mill's table. Modulo
+         * the prime p they are a multiple of p^i - 1 for each i up to the size, since a table's roots lie in fields
+         * of p^i, times a power of p above the size, for roots that stand there again (MORE counts as a root 1);
+         * each power of p more asks for p once more. At most 7.8 * 10^18 (for 499): a long holds it.
          */
         long enoughTurns(int size) {
             long turns = prime - 1;
@@ -956,28 +955,36 @@ public final class RoundMill {
 
         /** For a step that brings no two places to the same one. */
         void moveBy(int[] step, int[] spare) {
+            int at = 0;
             for (int x = 0; x < measure; x++) {
                 int toX = startOf(step, 0, x);
                 int toY = startOf(step, Powers.WIDTH, x);
                 for (int y = 0; y < measure; y++) {
-                    spare[place(toX, toY)] = cells[place(x, y)];
-                    toX = onBy(toX, step[1]);
-                    toY = onBy(toY, step[Powers.WIDTH + 1]);
+                    spare[toX * measure + toY] = cells[at];
+                    at++;
+                    toX += step[1];
+                    toX -= toX < measure ? 0 : measure;
+                    toY += step[Powers.WIDTH + 1];
+                    toY -= toY < measure ? 0 : measure;
                 }
             }
             System.arraycopy(spare, 0, cells, 0, measure * measure);
         }
 
         boolean looksAlike(int[] step) {
+            int at = 0;
             for (int x = 0; x < measure; x++) {
                 int toX = startOf(step, 0, x);
                 int toY = startOf(step, Powers.WIDTH, x);
                 for (int y = 0; y < measure; y++) {
-                    if (cells[place(toX, toY)] != cells[place(x, y)]) {
+                    if (cells[toX * measure + toY] != cells[at]) {
                         return false;
                     }
-                    toX = onBy(toX, step[1]);
-                    toY = onBy(toY, step[Powers.WIDTH + 1]);
+                    at++;
+                    toX += step[1];
+                    toX -= toX < measure ? 0 : measure;
+                    toY += step[Powers.WIDTH + 1];
+                    toY -= toY < measure ? 0 : measure;
                 }
             }
             return true;
@@ -985,11 +992,6 @@ public final class RoundMill {
 
         private int startOf(int[] step, int from, int x) {
             return Numbers.restOf((long) step[from] * x + step[from + Powers.MORE], measure);
-        }
-
-        private int onBy(int place, int more) {
-            int on = place + more;
-            return on < measure ? on : on - measure;
         }
     }
 
