@@ -9,6 +9,9 @@ public final class ToldTest {
         begins();
         full();
         longest();
+        for (int ahead = 0; ahead < 64; ahead++) {
+            zerosAhead(ahead);
+        }
         for (int count = 0; count <= 9; count++) {
             for (int told = 0; told < 1 << count; told++) {
                 everyRule(2, count, told);
@@ -94,6 +97,24 @@ public final class ToldTest {
         }
         Due.is("rule least", x.rule(Integer.MIN_VALUE), -1);
         Due.is("rule most", x.rule(Integer.MAX_VALUE), -1);
+    }
+
+    /** Behind so many 0s, 64 told in all: rules of every length from 32 on. */
+    private static void zerosAhead(int ahead) {
+        RoundMill x = new RoundMill();
+        PlainMills plain = new PlainMills();
+        x.begin(3);
+        plain.begin(3);
+        for (int i = 0; i < 64; i++) {
+            int v = i < ahead ? 0 : i == ahead ? 2 : i * i * 7 / 5 % 3;
+            Due.is("tell behind 0s", x.tell(v), plain.tell(v));
+        }
+        int least = plain.least();
+        Due.is("least behind " + ahead + " 0s", x.least(), least);
+        Due.is("shown behind " + ahead + " 0s", x.shown(), 2 * least <= 64 ? 1 : 0);
+        for (int k : new int[] {1, 2, 3, least / 2, least - 1, least, least + 1}) {
+            Due.is("rule " + k + " behind " + ahead + " 0s", x.rule(k), plain.rule(k));
+        }
     }
 
     /** By trying every rule, the first of them first. */
