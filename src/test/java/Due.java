@@ -2,8 +2,18 @@
 final class Due {
     private static int asked = 0;
     private static int wrong = 0;
+    private static String under = "";
 
     private Due() {
+    }
+
+    /** What the next answers belong to. */
+    static void under(String place) {
+        under = place;
+    }
+
+    static int asked() {
+        return asked;
     }
 
     static void is(String call, long got, long want) {
@@ -11,7 +21,7 @@ final class Due {
         if (got != want) {
             wrong++;
             if (wrong <= 40) {
-                System.out.println(call + " answered " + got + ", due is " + want);
+                System.out.println(under + call + " answered " + got + ", due is " + want);
             }
         }
     }
