@@ -270,6 +270,9 @@ final class BoundsOfMills {
         x = Made.house(0, 500, new int[][] {{0, 499, 499, 499, 0}, {499, 0, 499, 499, 0}, {499, 499, 0, 499, 0},
             {499, 499, 499, 0, 0}});
         Due.is("of four with the greatest numbers", x.look(0, 3), 497);
+        x = Made.house(0, 499, new int[][] {{2, 3, 5, 7, 0}, {11, 13, 17, 19, 0}, {23, 29, 31, 37, 0},
+            {41, 43, 47, 53, 0}});
+        Due.is("of the first primes", x.look(0, 3), 880 - 499);
         x = Made.wheel(10, 4);
         Due.is("of a wheel of four", x.look(0, 3), 9);
         x = Made.wheel(10, 3);
@@ -330,6 +333,10 @@ final class BoundsOfMills {
                 Due.is("the least first", x.mill(1, 6, 1), due);
             }
         });
+        Sentences.says(of, "A mill comes", () -> {
+            asIfTheFirst();
+            manyOneAfterTheOther();
+        });
         Sentences.says(of, "; NONE: six there are", () -> {
             RoundMill x = new RoundMill();
             for (int m = 0; m < 6; m++) {
@@ -375,6 +382,54 @@ final class BoundsOfMills {
                 noSuchMill(3, 9, size);
             }
         });
+    }
+
+    /** Nothing is left of what was found of a mill that had the same number. */
+    private static void asIfTheFirst() {
+        int[][] shapes = {{0, 500, 4}, {0, 9, 4}, {1, 500, 1}, {1, 7, 1}, {2, 499, 4}, {2, 12, 1}, {2, 8, 2},
+            {3, 64, 2}, {3, 5, 2}, {0, 2, 3}};
+        for (int[] old : shapes) {
+            for (int[] s : shapes) {
+                RoundMill x = new RoundMill();
+                x.mill(old[0], old[1], old[2]);
+                for (int i = 0; i < old[2]; i++) {
+                    x.table(0, i, old[2] - 1 - i, 3 + 2 * i);
+                    x.more(0, i, 5);
+                }
+                x.paint(0, 1, 1, 9);
+                Made.answers(x);
+                x.drop(0);
+                x.mill(s[0], s[1], s[2]);
+                String anew = Made.answers(x);
+                RoundMill first = new RoundMill();
+                first.mill(s[0], s[1], s[2]);
+                String call = "kind " + s[0] + " measure " + s[1] + " behind kind " + old[0] + " measure " + old[1];
+                Due.yes(call + ": all as of a first one", Made.answers(first).equals(anew));
+            }
+        }
+    }
+
+    /** What was found of many mills that had the same number doesn't gather. */
+    private static void manyOneAfterTheOther() {
+        RoundMill x = new RoundMill();
+        int[] measures = {499, 491, 487, 479, 467, 463, 461, 457, 449, 443, 439, 433, 431, 421, 419, 409, 401, 397,
+            389};
+        for (int measure : measures) {
+            RoundMill first = new RoundMill();
+            x.mill(2, measure, 4);
+            first.mill(2, measure, 4);
+            for (int c = 0; c < 4; c++) {
+                x.table(0, 3, c, 2 + 3 * c);
+                first.table(0, 3, c, 2 + 3 * c);
+            }
+            x.plate(0, 3, 1);
+            first.plate(0, 3, 1);
+            Due.is("order modulo " + measure, x.order(0), first.order(0));
+            Due.is("round modulo " + measure, x.round(0), first.round(0));
+            x.plate(0, 3, 0);
+            Due.is("round of 0s modulo " + measure, x.round(0), 1);
+            Due.yes("its end", x.drop(0));
+        }
     }
 
     private static void noSuchMill(int kind, int measure, int size) {
@@ -459,7 +514,10 @@ final class BoundsOfMills {
                 Made.refused(houses, "its 1", x -> x.table(0, row, row + 1, 5));
             }
         });
-        Sentences.says(of, "(What was found of the mill is found anew then.)", BoundsOfMills::foundAnew);
+        Sentences.says(of, "(What was found of the mill is found anew then.)", () -> {
+            foundAnew();
+            foundAnewManyTimes();
+        });
     }
 
     private static void foundAnew() {
@@ -494,6 +552,25 @@ final class BoundsOfMills {
         Due.is("seen anew by more", x.seen(0), 20);
         x.move(0, 1);
         Due.is("moved anew", x.picture(0, 2, 3), 9);
+    }
+
+    /** What was found of many tables doesn't gather. */
+    private static void foundAnewManyTimes() {
+        for (int measure : new int[] {499, 420, 341, 377}) {
+            RoundMill x = Made.wheel(measure, 4);
+            for (int v = 1; v <= 60; v++) {
+                RoundMill fresh = Made.wheel(measure, 4);
+                for (int c = 0; c < 4; c++) {
+                    int told = v * (c + 3) * (v + 5 * c);
+                    x.table(0, 3, c, told);
+                    fresh.table(0, 3, c, told);
+                }
+                Due.is("round of table " + v, x.round(0), fresh.round(0));
+                Due.is("order of table " + v, x.order(0), fresh.order(0));
+                long length = fresh.round(0);
+                Due.is("rounds of table " + v, x.rounds(0, length), fresh.rounds(0, length));
+            }
+        }
     }
 
     private static void more() {

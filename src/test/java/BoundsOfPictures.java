@@ -237,6 +237,17 @@ final class BoundsOfPictures {
             Due.is("still", Made.painted(64, STILL, 1, 1, 1).seen(0), 1);
             Due.is("by a wheel of 2", Made.painted(64, new int[][] {{0, 1, 0}, {1, 0, 0}}, 1, 2, 1).seen(0), 2);
             Due.is("where it stays", Made.painted(64, new int[][] {{0, 1, 0}, {1, 0, 0}}, 2, 2, 1).seen(0), 1);
+            for (int m : new int[] {2, 3, 5, 8}) {
+                RoundMill stripes = Made.house(3, m, CAT);
+                for (int i = 0; i < m * m; i++) {
+                    stripes.paint(0, i / m, i % m, 1 + i);
+                }
+                Due.is("each cell another one's colour modulo " + m, stripes.seen(0), stripes.order(0));
+                for (int i = 0; i < m * m; i++) {
+                    stripes.paint(0, i / m, i % m, 255);
+                }
+                Due.is("all of one colour modulo " + m, stripes.seen(0), 1);
+            }
             Due.is("the longest of all", Made.painted(61, new int[][] {{0, 1, 0}, {59, 1, 0}}, 1, 2, 1).seen(0),
                 61 * 61 - 1);
         });

@@ -1,3 +1,5 @@
+import java.util.Random;
+
 /** Boundary cases of term 4 and of promises 28 to 32: begin, tell, least, shown, rule. */
 final class BoundsOfTold {
     private BoundsOfTold() {
@@ -105,6 +107,9 @@ final class BoundsOfTold {
             full.begin(3);
             Due.is("full no more", full.tell(1), 1);
             Due.is("nothing of it is left", full.least(), 1);
+            for (int old = 0; old < 40; old++) {
+                asIfTheFirst(old);
+            }
             RoundMill x = Made.single(7, 3, 2, 1);
             x.begin(5);
             Due.is("mills stay", x.look(0, 1), 7);
@@ -125,6 +130,32 @@ final class BoundsOfTold {
             }
             Due.is("modulo 5 still", x.rule(1), 3);
         });
+    }
+
+    /** Nothing is left of what was told ahead, nor of its rule. */
+    private static void asIfTheFirst(int old) {
+        Random random = new Random(old);
+        RoundMill x = new RoundMill();
+        x.begin(499);
+        for (int i = 0; i < 64 - old % 20; i++) {
+            x.tell(1 + random.nextInt(498));
+        }
+        x.rule(1);
+        for (int time = 0; time < 4; time++) {
+            int p = new int[] {2, 3, 7, 499}[random.nextInt(4)];
+            RoundMill fresh = told(p);
+            x.begin(p);
+            int noughts = random.nextInt(12);
+            int more = random.nextInt(20);
+            for (int i = 0; i < noughts + more; i++) {
+                int v = i < noughts ? 0 : random.nextInt(p);
+                Due.is("tell", x.tell(v), fresh.tell(v));
+                Due.is("least", x.least(), fresh.least());
+            }
+            for (int k = 0; k <= fresh.least() + 1; k++) {
+                Due.is("rule " + k + " of " + fresh.least(), x.rule(k), fresh.rule(k));
+            }
+        }
     }
 
     private static boolean isPrime(int p) {

@@ -93,6 +93,32 @@ final class Made {
         Due.yes(call + ": nothing happens", told(x).equals(before));
     }
 
+    /** What a mill answers to everything that can be asked of it, told nothing but its plate; some 140 calls. */
+    static String answers(RoundMill x) {
+        StringBuilder all = new StringBuilder();
+        for (int i = 0; i < 6; i++) {
+            all.append(x.look(0, i)).append(' ').append(x.rest(0, i)).append(' ');
+            all.append(x.part(0, i / 4, i % 4)).append(' ').append(x.split(0, i / 4, i % 4)).append(' ');
+            all.append(x.cell(0, i / 5, i % 5)).append(' ').append(x.picture(0, i / 2, i % 2)).append(' ');
+            all.append(x.fixed(0, i)).append(' ').append(x.rounds(0, i)).append(' ').append(x.check(0, i)).append(' ');
+        }
+        for (int neighbours : new int[] {2, 3, 4, 2}) {
+            all.append(x.shortest(0, neighbours)).append(' ').append(x.line(0, neighbours, 1)).append(' ');
+        }
+        all.append(x.all(0)).append(' ').append(x.order(0)).append(' ').append(x.seen(0)).append(' ');
+        for (long turns : new long[] {2, 5, 1L << 20, Long.MAX_VALUE}) {
+            for (int r = 0; r < 4; r++) {
+                x.plate(0, r, r + 1);
+            }
+            all.append(x.tail(0)).append(' ').append(x.round(0)).append(' ').append(x.leap(0, turns)).append(' ');
+            for (int r = 0; r < 4; r++) {
+                all.append(x.rest(0, r)).append(' ');
+            }
+            all.append(x.back(0, turns)).append(' ').append(x.rest(0, 0)).append(' ');
+        }
+        return all.append(x.move(0, 3)).append(' ').append(x.picture(0, 1, 1)).toString();
+    }
+
     static long power(long base, int often) {
         long product = 1;
         for (int i = 0; i < often; i++) {

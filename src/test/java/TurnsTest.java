@@ -108,7 +108,7 @@ public final class TurnsTest {
     }
 
     /** The other way about than the program: from the number's highest bit down. */
-    private static int[][] power(int[][] step, long turns, int measure) {
+    static int[][] power(int[][] step, long turns, int measure) {
         int[][] to = new int[step.length][step.length];
         for (int i = 0; i < step.length; i++) {
             to[i][i] = 1;
