@@ -31,8 +31,9 @@ public final class RoundsTest {
             }
         }
         for (int run = 0; run < 400; run++) {
-            test.big();
+            test.big(test.someMeasure(), 1 + test.random.nextInt(4));
         }
+        test.everyPart();
         test.known();
         Due.end();
     }
@@ -168,10 +169,30 @@ public final class RoundsTest {
         }
     }
 
+    private int someMeasure() {
+        return random.nextInt(4) == 0 ? 499 - random.nextInt(10) : 2 + random.nextInt(499);
+    }
+
+    /** Each prime's powers on their own: what primes a round can have depends on these. */
+    private void everyPart() {
+        for (int prime = 2; prime < 500; prime++) {
+            boolean isPrime = true;
+            for (int d = 2; d < prime; d++) {
+                isPrime &= prime % d != 0;
+            }
+            for (int power = prime; isPrime && power <= 500; power *= prime) {
+                for (int ofSize = 1; ofSize <= 4; ofSize++) {
+                    big(power, ofSize);
+                    big(power, ofSize);
+                }
+            }
+        }
+    }
+
     /** Mills that can't be gone through: that the answers are right is seen by leaps. */
-    private void big() {
-        measure = random.nextInt(4) == 0 ? 499 - random.nextInt(10) : 2 + random.nextInt(499);
-        size = 1 + random.nextInt(4);
+    private void big(int ofMeasure, int ofSize) {
+        measure = ofMeasure;
+        size = ofSize;
         tell(random.nextInt(5));
         for (int r = 0; r < size; r++) {
             x.plate(0, r, random.nextInt(measure));
